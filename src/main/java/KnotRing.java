@@ -656,21 +656,24 @@ public final class KnotRing {
 
         void lookFrom(int number) {
             Car me = car[number];
-            me.gap = length - 1;
-            me.ahead = number;
-            me.other = length;
+            int gap = length - 1;
+            int ahead = number;
+            int other = length;
             for (int c = 0; c < cars; c++) {
                 if (c != number) {
                     int on = cellsOn(me.cell, car[c].cell);
                     if (car[c].lane != me.lane) {
-                        me.other = Math.min(me.other, on);
-                    } else if (on - 1 < me.gap) {
-                        me.gap = on - 1;
-                        me.ahead = c;
+                        other = on < other ? on : other;
+                    } else if (on - 1 < gap) {
+                        gap = on - 1;
+                        ahead = c;
                     }
                 }
             }
-            me.lead = car[me.ahead].pace - me.pace;
+            me.gap = gap;
+            me.ahead = ahead;
+            me.lead = car[ahead].pace - me.pace;
+            me.other = other;
         }
 
         void lookFromAll() {

@@ -730,6 +730,14 @@ public final class PromiseTest {
         z.item(0, 2, 1, 3);
         z.paces(0, 2, 0);
         is("car 1 comes round to a halt", z.round(500), NONE);
+        KnotRing v = begin("a note of nothing but 0 is a note");
+        v.car(0, 0, 0);
+        v.car(0, 1, 0);
+        v.car(1, 0, 0);
+        v.set(0, 1, 1);
+        is("none and one", v.round(500), NONE);
+        v.ticks(1);
+        is("one and one", v.round(500), 1);
         KnotRing w = begin("round by lanes");
         Due.habit(w, 0, "*:=5c", 1);
         w.ring(0, 15);
