@@ -359,6 +359,13 @@ public final class PromiseTest {
         x.ticks(1);
         is("from 3 past 4", x.looped(3, 1), 5);
         is("standing ones are not counted", x.looped(2, 0), 1);
+        KnotRing y = new KnotRing();
+        Due.habit(y, 0, "*:=0c", 1);
+        y.car(0, 7, 0);
+        y.loop(7);
+        y.ticks(1);
+        is("it changed lane at the loop", y.told(0, 7), 1);
+        is("and did not come to it", y.looped(0, 0), 0);
         is("loop 4", x.looped(4, 0), BAD);
         is("loop -1", x.looped(-1, 0), BAD);
         is("what 2", x.looped(0, 2), BAD);
@@ -840,6 +847,8 @@ public final class PromiseTest {
         x.sheet(0, 1, 4);
         is("no cars", x.paces(0, 1, 0), 0);
         is("no cars, from the end on", x.paces(0, 1, 4), 0);
+        is("no cars, from beyond it on", x.paces(0, 1, 5), INDEX);
+        is("no cars, from -1 on", x.paces(0, 1, -1), INDEX);
         x.evenly(3, 1);
         x.item(0, 1, 1, 256 + 9);
         x.item(0, 1, 2, 4);
