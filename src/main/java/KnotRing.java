@@ -15,7 +15,7 @@ public final class KnotRing {
     private static final int CARS_TO_CALM = 8, CALMING_HABIT = 2;
     private static final int COST_BAD = BAD - 100000;
 
-    private final Reader reader = new Reader();
+    private final Reader reader;
     private final Ring here;
     /** One ring serves all that is foretold, so that no call makes objects for it. */
     private final Ring foretold;
@@ -25,7 +25,9 @@ public final class KnotRing {
     private final Sheet[] sheets = new Sheet[SHEETS];
 
     public KnotRing() {
-        Habit none = new Habit(reader);
+        Reader blank = new Reader();
+        Habit none = new Habit(blank);
+        reader = blank;
         here = new Ring(none);
         foretold = new Ring(none);
         for (int n = 0; n < IMAGES; n++) {

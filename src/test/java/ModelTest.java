@@ -1,3 +1,4 @@
+import java.util.Arrays;
 import java.util.Random;
 
 /** Runs of calls at random, always the same ones, on the class and on the second reading of the document. */
@@ -89,7 +90,7 @@ public final class ModelTest {
     }
 
     private void call(String name, int[] a) {
-        int got = ask(name, a);
+        int got = new Call(name, Arrays.stream(a).asLongStream().toArray()).on(x);
         StringBuilder row = new StringBuilder(name);
         for (int v : a) {
             row.append(' ').append(v);
@@ -160,39 +161,5 @@ public final class ModelTest {
         }
         String minus = random.nextInt(4) == 0 ? "-" : "";
         return not + "gdov".charAt(random.nextInt(4)) + "<>=".charAt(random.nextInt(3)) + minus + random.nextInt(random.nextInt(4) == 0 ? 30 : 7);
-    }
-
-    private int ask(String name, int[] a) {
-        switch (name) {
-            case "ring": return x.ring(a[0], a[1]);
-            case "car": return x.car(a[0], a[1], a[2]);
-            case "evenly": return x.evenly(a[0], a[1]);
-            case "set": return x.set(a[0], a[1], a[2]);
-            case "told": return x.told(a[0], a[1]);
-            case "habit": return x.habit(a[0]);
-            case "holds": return x.holds(a[0]);
-            case "board": return x.board(a[0], a[1], a[2]);
-            case "loop": return x.loop(a[0]);
-            case "looped": return x.looped(a[0], a[1]);
-            case "tap": return x.tap(a[0]);
-            case "ticks": return x.ticks(a[0]);
-            case "count": return x.count(a[0]);
-            case "knot": return x.knot(a[0], a[1]);
-            case "first": return x.first();
-            case "cost": return x.cost(a[0], a[1], a[2]);
-            case "after": return x.after(a[0], a[1]);
-            case "calmed": return x.calmed(a[0], a[1]);
-            case "round": return x.round(a[0]);
-            case "evens": return x.evens(a[0]);
-            case "image": return x.image(a[0]);
-            case "restore": return x.restore(a[0]);
-            case "paces": return x.paces(a[0], a[1], a[2]);
-            case "taps": return x.taps(a[0], a[1]);
-            case "sheet": return x.sheet(a[0], a[1], a[2]);
-            case "drop": return x.drop(a[0]);
-            case "item": return x.item(a[0], a[1], a[2], a[3]);
-            case "copy": return x.copy(a[0], a[1], a[2], a[3], a[4]);
-            default: throw new IllegalArgumentException(name);
-        }
     }
 }
