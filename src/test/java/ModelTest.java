@@ -90,13 +90,14 @@ public final class ModelTest {
     }
 
     private void call(String name, int[] a) {
-        int got = new Call(name, Arrays.stream(a).asLongStream().toArray()).on(x);
+        Call call = new Call(name, Arrays.stream(a).asLongStream().toArray());
+        int got = call.on(x);
         StringBuilder row = new StringBuilder(name);
         for (int v : a) {
             row.append(' ').append(v);
         }
         told.append(row).append(" -> ").append(got).append('\n');
-        int want = y.call(name, a);
+        int want = y.call(call);
         for (int k = 0; k < NAMES.length; k++) {
             seen[k] += NAMES[k].equals(name) && got >= 0 ? 1 : 0;
         }

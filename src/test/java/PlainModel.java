@@ -1,4 +1,5 @@
 import java.util.ArrayList;
+import java.util.Arrays;
 import java.util.Collections;
 import java.util.List;
 import java.util.TreeMap;
@@ -303,6 +304,19 @@ final class PlainModel {
             case "copy": return copy(a[0], a[1], a[2], a[3], a[4]);
             default: throw new IllegalArgumentException(name);
         }
+    }
+
+    int call(Call call) {
+        int[] a = Arrays.stream(call.args()).mapToInt(v -> (int) v).toArray();
+        return call.name().equals("type") ? type(textOf(call.args()[0], a[1])) : call(call.name(), a);
+    }
+
+    private static String textOf(long w, int n) {
+        StringBuilder text = new StringBuilder();
+        for (int k = 0; k < n; k++) {
+            text.append((char) (w >>> 8 * k & 255));
+        }
+        return text.reverse().toString();
     }
 
     int type(String piece) {

@@ -58,7 +58,7 @@ final class Rows {
         compare(first, second, section + " '" + words + "': " + two[two.length - 1]);
     }
 
-    private static List<Call> calls(String[] rows) {
+    static List<Call> calls(String[] rows) {
         List<Call> all = new ArrayList<>();
         for (String text : rows) {
             all.addAll(row(text).calls);
