@@ -49,6 +49,12 @@ final class Document {
         }
     }
 
+    /** A section's words, or null if there is no document. */
+    static String section(String section) {
+        StringBuilder words = SECTIONS.get(section);
+        return words == null ? null : words.toString();
+    }
+
     static void quote(String section, String words) {
         if (SECTIONS.isEmpty()) {
             return;
